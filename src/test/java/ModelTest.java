@@ -1,0 +1,501 @@
+import java.util.Arrays;
+import java.util.Random;
+
+/**
+ * Long runs of mixed calls, each answered also by a slow second program that is written from the
+ * document in another way: it multiplies by a table of powers, finds ranks by clearing columns,
+ * and knows what the code says from the data that was written, without decoding.
+ */
+public final class ModelTest {
+    private static final int CALLS = 512;
+    private static final int RUNS = 1500;
+
+    private static final class Model {
+        final int n;
+        final int[][] row;
+        final int[][] groups;
+        final long[][] written;
+        final long[][] now;
+        final boolean[][] gone;
+        final boolean[] down = new boolean[12];
+        final int[] counted = new int[4];
+        final int[] power = new int[255];
+        final int[] exponent = new int[256];
+        long got = 0;
+
+        Model(int kind) {
+            int value = 1;
+            for (int e = 0; e < 255; e++) {
+                power[e] = value;
+                exponent[value] = e;
+                value = value * 2 >= 256 ? value * 2 ^ 0x11D : value * 2;
+            }
+            n = kind == 2 ? 11 : 10;
+            row = new int[n][6];
+            for (int i = 0; i < 6; i++) {
+                row[i][i] = 1;
+                if (kind == 1 || kind == 2) {
+                    row[i < 3 ? 6 : 7][i] = 1;
+                    row[8][i] = inverse(8 ^ i);
+                    row[9][i] = inverse(9 ^ i);
+                } else {
+                    row[6][i] = inverse(8 ^ i);
+                    row[7][i] = inverse(9 ^ i);
+                    row[8][i] = inverse(10 ^ i);
+                    row[9][i] = inverse(11 ^ i);
+                }
+                if (kind == 2) {
+                    row[10][i] = row[8][i] ^ row[9][i];
+                }
+            }
+            int[][] all = {{0, 1, 2, 6}, {3, 4, 5, 7}, {8, 9, 10}};
+            groups = Arrays.copyOf(all, kind == 1 ? 2 : kind == 2 ? 3 : 0);
+            written = new long[3][n];
+            now = new long[3][n];
+            gone = new boolean[3][n];
+        }
+
+        int product(int a, int b) {
+            return a == 0 || b == 0 ? 0 : power[(exponent[a] + exponent[b]) % 255];
+        }
+
+        int inverse(int a) {
+            return power[(255 - exponent[a]) % 255];
+        }
+
+        long product(int a, long shard) {
+            long answer = 0;
+            for (int j = 0; j < 8; j++) {
+                answer |= (long) product(a, (int) (shard >>> 8 * j & 255)) << 8 * j;
+            }
+            return answer;
+        }
+
+        int rankOf(boolean[] taken) {
+            int[][] rows = new int[n][];
+            for (int i = 0; i < n; i++) {
+                rows[i] = taken[i] ? row[i].clone() : new int[6];
+            }
+            int found = 0;
+            for (int column = 0; column < 6; column++) {
+                int pivot = -1;
+                for (int i = found; i < n && pivot < 0; i++) {
+                    pivot = rows[i][column] != 0 ? i : -1;
+                }
+                if (pivot < 0) {
+                    continue;
+                }
+                int[] top = rows[pivot];
+                rows[pivot] = rows[found];
+                rows[found] = top;
+                for (int i = 0; i < n; i++) {
+                    int by = i == found ? 0 : product(rows[i][column], inverse(top[column]));
+                    for (int j = 0; j < 6; j++) {
+                        rows[i][j] ^= product(by, top[j]);
+                    }
+                }
+                found++;
+            }
+            return found;
+        }
+
+        boolean[] present(int s) {
+            boolean[] answer = new boolean[n];
+            for (int i = 0; i < n; i++) {
+                answer[i] = !gone[s][i];
+            }
+            return answer;
+        }
+
+        boolean[] local(int s, int i) {
+            for (int[] group : groups) {
+                boolean member = false;
+                boolean whole = true;
+                boolean[] plan = new boolean[n];
+                for (int j : group) {
+                    member |= j == i;
+                    whole &= j == i || !gone[s][j];
+                    plan[j] = j != i;
+                }
+                if (member && whole) {
+                    return plan;
+                }
+            }
+            return null;
+        }
+
+        boolean[] plan(int s, int i) {
+            boolean[] plan = local(s, i);
+            if (plan != null || rankOf(present(s)) < 6) {
+                return plan;
+            }
+            plan = new boolean[n];
+            int taken = 0;
+            for (int j = 0; j < n && taken < 6; j++) {
+                if (!gone[s][j]) {
+                    plan[j] = true;
+                    if (rankOf(plan) > taken) {
+                        taken++;
+                    } else {
+                        plan[j] = false;
+                    }
+                }
+            }
+            return plan;
+        }
+
+        int place(int s, int i) {
+            return (5 * s + i) % 12;
+        }
+
+        boolean read(int s, int i) {
+            counted[0]++;
+            if (now[s][i] != written[s][i]) {
+                gone[s][i] = true;
+            }
+            return !gone[s][i];
+        }
+
+        boolean readFor(int s, int i, int j) {
+            if (place(s, i) / 3 != place(s, j) / 3) {
+                counted[2]++;
+            }
+            return read(s, i);
+        }
+
+        void write(int s, int i, long v) {
+            counted[1]++;
+            written[s][i] = v;
+            now[s][i] = v;
+            gone[s][i] = false;
+        }
+
+        long codeSays(int s, int i) {
+            long sum = 0;
+            for (int j = 0; j < 6; j++) {
+                sum ^= product(row[i][j], written[s][j]);
+            }
+            return sum;
+        }
+
+        int follow(int s, int i) {
+            int chosen = 0;
+            while (true) {
+                boolean[] plan = plan(s, i);
+                if (plan == null) {
+                    return -4;
+                }
+                chosen++;
+                counted[3]++;
+                boolean good = true;
+                for (int j = 0; j < n && good; j++) {
+                    good = !plan[j] || readFor(s, j, i);
+                }
+                if (good) {
+                    return chosen;
+                }
+            }
+        }
+
+        boolean shard(int s, int i) {
+            return s >= 0 && s <= 2 && i >= 0 && i < n;
+        }
+
+        long put(int s, int i, long v) {
+            if (s < 0 || s > 2 || i < 0 || i > 5) {
+                return -1;
+            }
+            if (gone[s][i]) {
+                return -2;
+            }
+            if (!read(s, i)) {
+                return -3;
+            }
+            int answer = 0;
+            for (int j = 6; j < n; j++) {
+                if (!gone[s][j] && row[j][i] != 0 && readFor(s, j, i)) {
+                    write(s, j, now[s][j] ^ product(row[j][i], now[s][i] ^ v));
+                    answer++;
+                }
+            }
+            write(s, i, v);
+            return answer;
+        }
+
+        long fetch(int s, int i) {
+            if (!shard(s, i)) {
+                return -1;
+            }
+            int answer = !gone[s][i] && read(s, i) ? 0 : follow(s, i);
+            if (answer >= 0) {
+                got = codeSays(s, i);
+            }
+            return answer;
+        }
+
+        long fail(int x) {
+            if (x < 0 || x > 11) {
+                return -1;
+            }
+            if (down[x]) {
+                return -2;
+            }
+            down[x] = true;
+            int answer = 0;
+            for (int s = 0; s < 3; s++) {
+                for (int i = 0; i < n; i++) {
+                    if (place(s, i) == x && !gone[s][i]) {
+                        gone[s][i] = true;
+                        answer++;
+                    }
+                }
+            }
+            return answer;
+        }
+
+        long revive(int x) {
+            if (x < 0 || x > 11 || !down[x]) {
+                return 0;
+            }
+            down[x] = false;
+            return 1;
+        }
+
+        long damage(int s, int i, int b) {
+            if (!shard(s, i) || gone[s][i] || b < 0 || b > 63) {
+                return 0;
+            }
+            now[s][i] ^= 1L << b;
+            return 1;
+        }
+
+        long repair(int s, int i) {
+            if (!shard(s, i)) {
+                return -1;
+            }
+            if (!gone[s][i]) {
+                return -2;
+            }
+            if (down[place(s, i)]) {
+                return -3;
+            }
+            int answer = follow(s, i);
+            if (answer > 0) {
+                write(s, i, codeSays(s, i));
+            }
+            return answer;
+        }
+
+        long mend(int s) {
+            if (s < 0 || s > 2) {
+                return -1;
+            }
+            int answer = 0;
+            while (true) {
+                int next = -1;
+                boolean nextIsLocal = false;
+                for (int i = 0; i < n; i++) {
+                    if (!gone[s][i] || down[place(s, i)] || plan(s, i) == null) {
+                        continue;
+                    }
+                    boolean isLocal = local(s, i) != null;
+                    if (next < 0 || isLocal && !nextIsLocal) {
+                        next = i;
+                        nextIsLocal = isLocal;
+                    }
+                }
+                if (next < 0) {
+                    return answer;
+                }
+                if (repair(s, next) > 0) {
+                    answer++;
+                }
+            }
+        }
+
+        long scrub(int s) {
+            if (s < 0 || s > 2) {
+                return -1;
+            }
+            int answer = 0;
+            for (int i = 0; i < n; i++) {
+                if (!gone[s][i] && !read(s, i)) {
+                    answer++;
+                }
+            }
+            return answer;
+        }
+
+        long cost(int s, int i) {
+            if (!shard(s, i)) {
+                return -1;
+            }
+            if (!gone[s][i]) {
+                return 0;
+            }
+            boolean[] plan = plan(s, i);
+            if (plan == null) {
+                return -4;
+            }
+            int answer = 0;
+            for (boolean taken : plan) {
+                answer += taken ? 1 : 0;
+            }
+            return answer;
+        }
+
+        long rank(int s) {
+            return s < 0 || s > 2 ? -1 : rankOf(present(s));
+        }
+
+        long lost(int s) {
+            if (s < 0 || s > 2) {
+                return -1;
+            }
+            int answer = 0;
+            for (int i = 0; i < n; i++) {
+                answer += gone[s][i] ? 1 << i : 0;
+            }
+            return answer;
+        }
+
+        long content(int s, int i) {
+            return shard(s, i) && !gone[s][i] ? now[s][i] : 0;
+        }
+    }
+
+    private static int wrong = 0;
+
+    private static void due(int run, int call, String text, long got, long want) {
+        if (got != want) {
+            wrong++;
+            if (wrong <= 50) {
+                System.out.println("run " + run + ", call " + call + ": " + text + " answered " + got + ", due is " + want);
+            }
+        }
+    }
+
+    private static int oneOf(Random random, int bound) {
+        int odd = random.nextInt(60);
+        if (odd == 0) {
+            return -1;
+        }
+        if (odd == 1) {
+            return bound;
+        }
+        if (odd == 2) {
+            return random.nextInt();
+        }
+        return random.nextInt(bound);
+    }
+
+    private static long someContent(Random random) {
+        return random.nextInt(4) == 0 ? random.nextInt(256) : random.nextLong();
+    }
+
+    // How often each kind of call comes: calm runs, runs of many failures, runs of much damage.
+    private static final int[][] WEIGHTS = {
+        {20, 10, 4, 4, 6, 6, 3, 2},
+        {10, 10, 14, 10, 2, 8, 4, 1},
+        {12, 10, 4, 6, 30, 8, 4, 1},
+        {12, 12, 8, 8, 16, 10, 1, 0},
+    };
+
+    private static int pick(Random random, int[] weights) {
+        int sum = 0;
+        for (int weight : weights) {
+            sum += weight;
+        }
+        int left = random.nextInt(sum);
+        int kind = 0;
+        while (left >= weights[kind]) {
+            left -= weights[kind];
+            kind++;
+        }
+        return kind;
+    }
+
+    private static void change(int run, int call, Random random, RepairGroups x, Model m) {
+        int s = oneOf(random, 3);
+        int i = oneOf(random, 11);
+        int node = oneOf(random, 12);
+        switch (pick(random, WEIGHTS[run % WEIGHTS.length])) {
+            case 0: {
+                int d = oneOf(random, 6);
+                long v = someContent(random);
+                due(run, call, "put(" + s + ", " + d + ", " + v + ")", x.put(s, d, v), m.put(s, d, v));
+                break;
+            }
+            case 1:
+                due(run, call, "fetch(" + s + ", " + i + ")", x.fetch(s, i), m.fetch(s, i));
+                break;
+            case 2:
+                due(run, call, "fail(" + node + ")", x.fail(node), m.fail(node));
+                break;
+            case 3:
+                due(run, call, "revive(" + node + ")", x.revive(node) ? 1 : 0, m.revive(node));
+                break;
+            case 4: {
+                int b = oneOf(random, 64);
+                due(run, call, "damage(" + s + ", " + i + ", " + b + ")", x.damage(s, i, b) ? 1 : 0, m.damage(s, i, b));
+                break;
+            }
+            case 5:
+                due(run, call, "repair(" + s + ", " + i + ")", x.repair(s, i), m.repair(s, i));
+                break;
+            case 6:
+                due(run, call, "mend(" + s + ")", x.mend(s), m.mend(s));
+                break;
+            default:
+                due(run, call, "scrub(" + s + ")", x.scrub(s), m.scrub(s));
+                break;
+        }
+    }
+
+    private static void compare(int run, int call, RepairGroups x, Model m) {
+        due(run, call, "fetched()", x.fetched(), m.got);
+        due(run, call, "size()", x.size(), m.n);
+        for (int which = 0; which < 4; which++) {
+            due(run, call, "count(" + which + ")", x.count(which), m.counted[which]);
+        }
+        for (int node = -1; node <= 12; node++) {
+            due(run, call, "up(" + node + ")", x.up(node) ? 1 : 0, node >= 0 && node < 12 && !m.down[node] ? 1 : 0);
+        }
+        for (int s = -1; s <= 3; s++) {
+            due(run, call, "lost(" + s + ")", x.lost(s), m.lost(s));
+            due(run, call, "rank(" + s + ")", x.rank(s), m.rank(s));
+            for (int i = -1; i <= m.n; i++) {
+                due(run, call, "content(" + s + ", " + i + ")", x.content(s, i), m.content(s, i));
+                due(run, call, "node(" + s + ", " + i + ")", x.node(s, i), m.shard(s, i) ? m.place(s, i) : -1);
+            }
+        }
+        int s = call % 3;
+        for (int i = -1; i <= m.n; i++) {
+            due(run, call, "cost(" + s + ", " + i + ")", x.cost(s, i), m.cost(s, i));
+        }
+    }
+
+    public static void main(String[] args) {
+        for (int run = 0; run < RUNS && wrong == 0; run++) {
+            Random random = new Random(run);
+            int kind = run / 4 % 3;
+            RepairGroups x = new RepairGroups(kind);
+            Model m = new Model(kind);
+            // Some runs look at everything after every change, which also shows that looking
+            // changes nothing; the others look seldom and so make long runs of changes.
+            int step = run % 3 == 0 ? 1 : 16;
+            for (int call = 0; call < CALLS && wrong == 0; call++) {
+                change(run, call, random, x, m);
+                if (call % step == step - 1) {
+                    compare(run, call, x, m);
+                }
+            }
+            // Another look: a state that reading changed would show here.
+            compare(run, CALLS, x, m);
+        }
+        System.out.println(wrong == 0 ? "all answers are as due" : wrong + " answers are not as due");
+        if (wrong != 0) {
+            System.exit(1);
+        }
+    }
+}
