@@ -315,7 +315,7 @@ public final class RepairGroups {
     /** Plans are sets of shards, one bit each. */
     private int choosePlan(Stripe stripe, int i) {
         int plan = localPlan(stripe, i);
-        return plan == EMPTY_PLAN ? globalPlan(stripe) : plan;
+        return plan == EMPTY_PLAN ? globalPlan(independentShards(stripe)) : plan;
     }
 
     private int localPlan(Stripe stripe, int i) {
@@ -323,10 +323,9 @@ public final class RepairGroups {
         return (others & stripe.lostMask()) == 0 ? others : EMPTY_PLAN;
     }
 
-    /** The same for every lost shard of the stripe, as it depends only on those that are there. */
-    private int globalPlan(Stripe stripe) {
-        int taken = independentShards(stripe);
-        return Integer.bitCount(taken) == DATA ? taken : EMPTY_PLAN;
+    /** The same for every lost shard of a stripe, as it depends only on those that are there. */
+    private static int globalPlan(int independent) {
+        return Integer.bitCount(independent) == DATA ? independent : EMPTY_PLAN;
     }
 
     /** No row is independent of six that are, so at most six are taken. */
@@ -353,7 +352,7 @@ public final class RepairGroups {
                 return i;
             }
         }
-        return globalPlan(stripe) == EMPTY_PLAN ? NO_SHARD : least;
+        return globalPlan(independentShards(stripe)) == EMPTY_PLAN ? NO_SHARD : least;
     }
 
     private boolean canBeWritten(Stripe stripe, int i) {
@@ -361,7 +360,7 @@ public final class RepairGroups {
     }
 
     private static boolean isIn(int set, int i) {
-        return (set >> i & 1) != 0;
+        return ((set >> i) & 1) != 0;
     }
 
     /** Bytes, and longs as rows of bytes: a shard has eight of them, a row of the code six. */
@@ -373,11 +372,11 @@ public final class RepairGroups {
         private static final long OVERFLOW = 0x1DL;
 
         static int at(long bytes, int place) {
-            return (int) (bytes >>> BITS * place) & MASK;
+            return (int) (bytes >>> (BITS * place)) & MASK;
         }
 
         static long placed(int value, int place) {
-            return (long) value << BITS * place;
+            return (long) value << (BITS * place);
         }
 
         /** The product of the factor and each of the bytes. */
@@ -385,11 +384,12 @@ public final class RepairGroups {
             long sum = 0L;
             long shifted = bytes;
             for (int bit = 0; bit < BITS; bit++) {
-                if ((factor >> bit & 1) != 0) {
+                if (((factor >> bit) & 1) != 0) {
                     sum ^= shifted;
                 }
-                long high = shifted >>> BITS - 1 & LOW_BITS;
-                shifted = (shifted & ~(LOW_BITS << BITS - 1)) << 1 ^ high * OVERFLOW;
+                long highBits = (shifted >>> (BITS - 1)) & LOW_BITS;
+                long lowRest = shifted & ~(LOW_BITS << (BITS - 1));
+                shifted = (lowRest << 1) ^ (highBits * OVERFLOW);
             }
             return sum;
         }

@@ -302,8 +302,11 @@ public final class PromisesTest {
         wipe(x, 0, 1, 2, 3, 4);
         due("fetch without a plan", x.fetch(0, 0), -4);
         due("fetched() after it", x.fetched(), 1);
-        x.repair(1, 7);
-        due("fetched() after a repair", x.fetched(), 1);
+        x.fetch(0, 5);
+        x.fetch(0, 0);
+        due("fetched() after one that is there and one without a plan", x.fetched(), dataOf(0, 5));
+        due("repair(1, 9)", x.repair(1, 9), 1);
+        due("fetched() after a repair", x.fetched(), dataOf(0, 5));
     }
 
     private static void fail() {
