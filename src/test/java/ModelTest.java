@@ -7,8 +7,10 @@ import java.util.Random;
  * and knows what the code says from the data that was written, without decoding.
  */
 public final class ModelTest {
+    // The document leaves free what an object answers after so many calls, so none is asked more.
     private static final int CALLS = 512;
-    private static final int RUNS = 1500;
+    private static final int CALLS_OF_A_LOOK = 173;
+    private static final int RUNS = 6000;
 
     private static final class Model {
         final int n;
@@ -362,15 +364,23 @@ public final class ModelTest {
         long content(int s, int i) {
             return shard(s, i) && !gone[s][i] ? now[s][i] : 0;
         }
+
+        long up(int node) {
+            return node >= 0 && node < 12 && !down[node] ? 1 : 0;
+        }
     }
 
     private static int wrong = 0;
+    private static int run = 0;
+    private static int asked = 0;
 
-    private static void due(int run, int call, String text, long got, long want) {
+    /** Each call of the object passes here once. */
+    private static void due(String call, long got, long want) {
+        asked++;
         if (got != want) {
             wrong++;
             if (wrong <= 50) {
-                System.out.println("run " + run + ", call " + call + ": " + text + " answered " + got + ", due is " + want);
+                System.out.println("run " + run + ", call " + asked + ": " + call + " answered " + got + ", due is " + want);
             }
         }
     }
@@ -415,7 +425,7 @@ public final class ModelTest {
         return kind;
     }
 
-    private static void change(int run, int call, Random random, RepairGroups x, Model m) {
+    private static void change(Random random, RepairGroups x, Model m) {
         int s = oneOf(random, 3);
         int i = oneOf(random, 11);
         int node = oneOf(random, 12);
@@ -423,75 +433,121 @@ public final class ModelTest {
             case 0: {
                 int d = oneOf(random, 6);
                 long v = someContent(random);
-                due(run, call, "put(" + s + ", " + d + ", " + v + ")", x.put(s, d, v), m.put(s, d, v));
+                due("put(" + s + ", " + d + ", " + v + ")", x.put(s, d, v), m.put(s, d, v));
                 break;
             }
             case 1:
-                due(run, call, "fetch(" + s + ", " + i + ")", x.fetch(s, i), m.fetch(s, i));
+                due("fetch(" + s + ", " + i + ")", x.fetch(s, i), m.fetch(s, i));
                 break;
             case 2:
-                due(run, call, "fail(" + node + ")", x.fail(node), m.fail(node));
+                due("fail(" + node + ")", x.fail(node), m.fail(node));
                 break;
             case 3:
-                due(run, call, "revive(" + node + ")", x.revive(node) ? 1 : 0, m.revive(node));
+                due("revive(" + node + ")", x.revive(node) ? 1 : 0, m.revive(node));
                 break;
             case 4: {
                 int b = oneOf(random, 64);
-                due(run, call, "damage(" + s + ", " + i + ", " + b + ")", x.damage(s, i, b) ? 1 : 0, m.damage(s, i, b));
+                due("damage(" + s + ", " + i + ", " + b + ")", x.damage(s, i, b) ? 1 : 0, m.damage(s, i, b));
                 break;
             }
             case 5:
-                due(run, call, "repair(" + s + ", " + i + ")", x.repair(s, i), m.repair(s, i));
+                due("repair(" + s + ", " + i + ")", x.repair(s, i), m.repair(s, i));
                 break;
             case 6:
-                due(run, call, "mend(" + s + ")", x.mend(s), m.mend(s));
+                due("mend(" + s + ")", x.mend(s), m.mend(s));
                 break;
             default:
-                due(run, call, "scrub(" + s + ")", x.scrub(s), m.scrub(s));
+                due("scrub(" + s + ")", x.scrub(s), m.scrub(s));
                 break;
         }
     }
 
-    private static void compare(int run, int call, RepairGroups x, Model m) {
-        due(run, call, "fetched()", x.fetched(), m.got);
-        due(run, call, "size()", x.size(), m.n);
+    /** One call that changes nothing. */
+    private static void ask(Random random, RepairGroups x, Model m) {
+        int s = oneOf(random, 3);
+        int i = oneOf(random, 11);
+        int node = oneOf(random, 12);
+        int which = oneOf(random, 4);
+        switch (random.nextInt(9)) {
+            case 0:
+                due("fetched()", x.fetched(), m.got);
+                break;
+            case 1:
+                due("size()", x.size(), m.n);
+                break;
+            case 2:
+                due("up(" + node + ")", x.up(node) ? 1 : 0, m.up(node));
+                break;
+            case 3:
+                due("count(" + which + ")", x.count(which), which >= 0 && which < 4 ? m.counted[which] : -1);
+                break;
+            case 4:
+                due("lost(" + s + ")", x.lost(s), m.lost(s));
+                break;
+            case 5:
+                due("rank(" + s + ")", x.rank(s), m.rank(s));
+                break;
+            case 6:
+                due("content(" + s + ", " + i + ")", x.content(s, i), m.content(s, i));
+                break;
+            case 7:
+                due("node(" + s + ", " + i + ")", x.node(s, i), m.shard(s, i) ? m.place(s, i) : -1);
+                break;
+            default:
+                due("cost(" + s + ", " + i + ")", x.cost(s, i), m.cost(s, i));
+                break;
+        }
+    }
+
+    private static void lookAtAll(RepairGroups x, Model m) {
+        due("fetched()", x.fetched(), m.got);
+        due("size()", x.size(), m.n);
         for (int which = 0; which < 4; which++) {
-            due(run, call, "count(" + which + ")", x.count(which), m.counted[which]);
+            due("count(" + which + ")", x.count(which), m.counted[which]);
         }
         for (int node = -1; node <= 12; node++) {
-            due(run, call, "up(" + node + ")", x.up(node) ? 1 : 0, node >= 0 && node < 12 && !m.down[node] ? 1 : 0);
+            due("up(" + node + ")", x.up(node) ? 1 : 0, m.up(node));
         }
         for (int s = -1; s <= 3; s++) {
-            due(run, call, "lost(" + s + ")", x.lost(s), m.lost(s));
-            due(run, call, "rank(" + s + ")", x.rank(s), m.rank(s));
+            due("lost(" + s + ")", x.lost(s), m.lost(s));
+            due("rank(" + s + ")", x.rank(s), m.rank(s));
             for (int i = -1; i <= m.n; i++) {
-                due(run, call, "content(" + s + ", " + i + ")", x.content(s, i), m.content(s, i));
-                due(run, call, "node(" + s + ", " + i + ")", x.node(s, i), m.shard(s, i) ? m.place(s, i) : -1);
+                due("content(" + s + ", " + i + ")", x.content(s, i), m.content(s, i));
+                due("node(" + s + ", " + i + ")", x.node(s, i), m.shard(s, i) ? m.place(s, i) : -1);
             }
         }
-        int s = call % 3;
         for (int i = -1; i <= m.n; i++) {
-            due(run, call, "cost(" + s + ", " + i + ")", x.cost(s, i), m.cost(s, i));
+            due("cost(" + run % 3 + ", " + i + ")", x.cost(run % 3, i), m.cost(run % 3, i));
+        }
+    }
+
+    /** One run in four goes to the last call; the others end sooner, with a look at all there is. */
+    private static void oneRun(Random random) {
+        int kind = run / 4 % 3;
+        RepairGroups x = new RepairGroups(kind);
+        Model m = new Model(kind);
+        boolean looks = run / 16 % 4 != 0;
+        int calls = looks ? 1 + random.nextInt(CALLS - CALLS_OF_A_LOOK) : CALLS;
+        asked = 0;
+        while (asked < calls && wrong == 0) {
+            if (random.nextInt(4) == 0) {
+                ask(random, x, m);
+            } else {
+                change(random, x, m);
+            }
+        }
+        if (looks) {
+            lookAtAll(x, m);
+        }
+        if (asked > CALLS) {
+            wrong++;
+            System.out.println("run " + run + " asked " + asked + " calls, which is too many");
         }
     }
 
     public static void main(String[] args) {
-        for (int run = 0; run < RUNS && wrong == 0; run++) {
-            Random random = new Random(run);
-            int kind = run / 4 % 3;
-            RepairGroups x = new RepairGroups(kind);
-            Model m = new Model(kind);
-            // Some runs look at everything after every change, which also shows that looking
-            // changes nothing; the others look seldom and so make long runs of changes.
-            int step = run % 3 == 0 ? 1 : 16;
-            for (int call = 0; call < CALLS && wrong == 0; call++) {
-                change(run, call, random, x, m);
-                if (call % step == step - 1) {
-                    compare(run, call, x, m);
-                }
-            }
-            // Another look: a state that reading changed would show here.
-            compare(run, CALLS, x, m);
+        for (run = 0; run < RUNS && wrong == 0; run++) {
+            oneRun(new Random(run));
         }
         System.out.println(wrong == 0 ? "all answers are as due" : wrong + " answers are not as due");
         if (wrong != 0) {
