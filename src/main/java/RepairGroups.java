@@ -411,7 +411,8 @@ public final class RepairGroups {
         private static final int PLAIN_SHARDS = 10;
         private static final int WOVEN_SHARDS = 11;
         private static final int FIRST_POINT = 8;
-        private static final int GROUP_DATA = 3;
+        private static final long FIRST_HALF = 0x000000010101L;
+        private static final long SECOND_HALF = 0x010101000000L;
         private static final int FIRST_GROUP = 1 << 0 | 1 << 1 | 1 << 2 | 1 << 6;
         private static final int SECOND_GROUP = 1 << 3 | 1 << 4 | 1 << 5 | 1 << 7;
         private static final int WOVEN_GROUP = 1 << 8 | 1 << 9 | 1 << 10;
@@ -424,30 +425,31 @@ public final class RepairGroups {
             shards = kind == WOVEN ? WOVEN_SHARDS : PLAIN_SHARDS;
             grouped = kind == LOCAL || kind == WOVEN;
             rows = new long[shards];
-            for (int i = 0; i < DATA; i++) {
-                rows[i] = Bytes.placed(1, i);
-            }
-            if (grouped) {
-                fillGrouped(rows);
-            } else {
-                fillPlain(rows);
+            for (int i = 0; i < shards; i++) {
+                rows[i] = grouped ? groupedRow(i) : plainRow(i);
             }
         }
 
-        private static void fillPlain(long[] rows) {
-            for (int i = DATA; i < rows.length; i++) {
-                rows[i] = inversesRow(FIRST_POINT + i - DATA);
-            }
+        private static long plainRow(int i) {
+            return i < DATA ? Bytes.placed(1, i) : inversesRow(FIRST_POINT + i - DATA);
         }
 
-        private static void fillGrouped(long[] rows) {
-            for (int place = 0; place < DATA; place++) {
-                rows[DATA + place / GROUP_DATA] |= Bytes.placed(1, place);
+        /** The rows of LOCAL, and of WOVEN, which has one shard more. */
+        private static long groupedRow(int i) {
+            if (i < DATA) {
+                return Bytes.placed(1, i);
             }
-            rows[8] = inversesRow(FIRST_POINT);
-            rows[9] = inversesRow(FIRST_POINT + 1);
-            if (rows.length == WOVEN_SHARDS) {
-                rows[10] = rows[8] ^ rows[9];
+            switch (i) {
+                case 6:
+                    return FIRST_HALF;
+                case 7:
+                    return SECOND_HALF;
+                case 8:
+                    return inversesRow(FIRST_POINT);
+                case 9:
+                    return inversesRow(FIRST_POINT + 1);
+                default:
+                    return inversesRow(FIRST_POINT) ^ inversesRow(FIRST_POINT + 1);
             }
         }
 

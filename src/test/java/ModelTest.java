@@ -2,8 +2,8 @@ import java.util.Arrays;
 import java.util.Random;
 
 /**
- * Long runs of mixed calls, each answered also by a slow second program that is written from the
- * document in another way: it multiplies by a table of powers, finds ranks by clearing columns,
+ * Long runs of mixed calls, and every set of lost or damaged shards that a stripe can have, each
+ * call answered also by a slow second program that is written from the document in another way: it multiplies by a table of powers, finds ranks by clearing columns,
  * and knows what the code says from the data that was written, without decoding.
  */
 public final class ModelTest {
@@ -545,9 +545,99 @@ public final class ModelTest {
         }
     }
 
+    private static void dueCounts(RepairGroups x, Model m) {
+        for (int which = 0; which < 4; which++) {
+            due("count(" + which + ")", x.count(which), m.counted[which]);
+        }
+    }
+
+    private static void fillData(RepairGroups x, Model m, int s) {
+        for (int i = 0; i < 6; i++) {
+            long v = (0x9E3779B97F4A7C15L + s) * (i + 1);
+            due("put(" + s + ", " + i + ", " + v + ")", x.put(s, i, v), m.put(s, i, v));
+        }
+    }
+
+    private static void damageAll(RepairGroups x, Model m, int s, int set) {
+        for (int i = 0; i < m.n; i++) {
+            if ((set >> i & 1) != 0) {
+                int b = (7 * i + set) % 64;
+                due("damage(" + s + ", " + i + ", " + b + ")", x.damage(s, i, b) ? 1 : 0, m.damage(s, i, b));
+            }
+        }
+    }
+
+    private static void dueShards(RepairGroups x, Model m, int s) {
+        due("lost(" + s + ")", x.lost(s), m.lost(s));
+        due("rank(" + s + ")", x.rank(s), m.rank(s));
+        for (int i = 0; i < m.n; i++) {
+            due("content(" + s + ", " + i + ")", x.content(s, i), m.content(s, i));
+            due("cost(" + s + ", " + i + ")", x.cost(s, i), m.cost(s, i));
+        }
+    }
+
+    /** The set is lost before anything is asked of it. */
+    private static void lostSet(int kind, int s, int set) {
+        RepairGroups x = new RepairGroups(kind);
+        Model m = new Model(kind);
+        asked = 0;
+        fillData(x, m, s);
+        damageAll(x, m, s, set);
+        due("scrub(" + s + ")", x.scrub(s), m.scrub(s));
+        dueShards(x, m, s);
+        for (int i = 0; i < m.n; i++) {
+            due("fetch(" + s + ", " + i + ")", x.fetch(s, i), m.fetch(s, i));
+            due("fetched()", x.fetched(), m.got);
+        }
+        dueCounts(x, m);
+        due("mend(" + s + ")", x.mend(s), m.mend(s));
+        dueShards(x, m, s);
+        dueCounts(x, m);
+    }
+
+    /** The set is damaged, and nothing knows of it when shard i is lost and called for. */
+    private static void damagedSet(int kind, int s, int set, int i) {
+        RepairGroups x = new RepairGroups(kind);
+        Model m = new Model(kind);
+        int node = m.place(s, i);
+        asked = 0;
+        fillData(x, m, s);
+        damageAll(x, m, s, set);
+        due("fail(" + node + ")", x.fail(node), m.fail(node));
+        if (set % 2 == 0) {
+            due("revive(" + node + ")", x.revive(node) ? 1 : 0, m.revive(node));
+            due("repair(" + s + ", " + i + ")", x.repair(s, i), m.repair(s, i));
+        } else {
+            due("fetch(" + s + ", " + i + ")", x.fetch(s, i), m.fetch(s, i));
+            due("fetched()", x.fetched(), m.got);
+        }
+        due("lost(" + s + ")", x.lost(s), m.lost(s));
+        dueCounts(x, m);
+        due("mend(" + s + ")", x.mend(s), m.mend(s));
+        dueShards(x, m, s);
+        dueCounts(x, m);
+    }
+
+    private static void everySet(int kind) {
+        int n = kind == 2 ? 11 : 10;
+        for (int set = 0; set < 1 << n && wrong == 0; set++) {
+            for (int s = 0; s < 3; s++) {
+                run++;
+                lostSet(kind, s, set);
+            }
+            for (int i = 0; i < n; i++) {
+                run++;
+                damagedSet(kind, (set / 2 + i) % 3, set, i);
+            }
+        }
+    }
+
     public static void main(String[] args) {
         for (run = 0; run < RUNS && wrong == 0; run++) {
             oneRun(new Random(run));
+        }
+        for (int kind = 0; kind < 3; kind++) {
+            everySet(kind);
         }
         System.out.println(wrong == 0 ? "all answers are as due" : wrong + " answers are not as due");
         if (wrong != 0) {
